@@ -36,6 +36,7 @@ public final class ContinuedRatios {
     private final Natural rightUpper = new Natural();
     private final Natural rightLower = new Natural();
     private final Natural shared = new Natural();
+    private final Natural product = new Natural();
     private final Natural whole = new Natural();
     private final Natural remainder = new Natural();
 
@@ -64,11 +65,19 @@ public final class ContinuedRatios {
     }
 
     public int add(int d, int a, int b) {
-        return keepSum(d, a, b, 1);
+        if (!areRegisters(d, a, b)) {
+            return NO_REGISTER;
+        }
+        addUp(registers[a], registers[b], registers[b].signum);
+        return keepResult(d);
     }
 
     public int sub(int d, int a, int b) {
-        return keepSum(d, a, b, -1);
+        if (!areRegisters(d, a, b)) {
+            return NO_REGISTER;
+        }
+        addUp(registers[a], registers[b], -registers[b].signum);
+        return keepResult(d);
     }
 
     public int mul(int d, int a, int b) {
@@ -188,14 +197,6 @@ public final class ContinuedRatios {
         return isRegister(d) && isRegister(a) && isRegister(b);
     }
 
-    private int keepSum(int d, int a, int b, int turn) {
-        if (!areRegisters(d, a, b)) {
-            return NO_REGISTER;
-        }
-        addUp(registers[a], registers[b], turn * registers[b].signum);
-        return keepResult(d);
-    }
-
     /** The result becomes register d's, when there is room for it. */
     private int keepResult(int d) {
         if (result.upper.length > width || result.lower.length > width) {
@@ -219,8 +220,8 @@ public final class ContinuedRatios {
         rightUpper.becomeProduct(right.upper, leftLower);
         addUpperNumbers(left.signum, rightSignum);
         reducer.reduce(result.upper, shared);
-        whole.becomeProduct(leftLower, rightLower);
-        result.lower.becomeProduct(whole, shared);
+        product.becomeProduct(leftLower, rightLower);
+        result.lower.becomeProduct(product, shared);
     }
 
     private void addUpperNumbers(int leftSignum, int rightSignum) {
@@ -297,15 +298,6 @@ public final class ContinuedRatios {
         private final Natural quotient = new Natural();
 
         void reduce(Natural first, Natural second) {
-            findDivisor(first, second);
-            if (divisor.isOne()) {
-                return;
-            }
-            divideOut(first);
-            divideOut(second);
-        }
-
-        private void findDivisor(Natural first, Natural second) {
             divisor.become(first);
             other.become(second);
             for (int step = 0; step < MOST_STEPS && !other.isZero(); step++) {
@@ -314,11 +306,12 @@ public final class ContinuedRatios {
                 divisor = other;
                 other = remainder;
             }
-        }
-
-        private void divideOut(Natural number) {
-            number.divide(divisor, quotient);
-            number.become(quotient);
+            if (!divisor.isOne()) {
+                first.divide(divisor, quotient);
+                first.become(quotient);
+                second.divide(divisor, quotient);
+                second.become(quotient);
+            }
         }
     }
 
@@ -355,9 +348,12 @@ public final class ContinuedRatios {
             upper = floor;
             lower = 1;
             gap.become(remainder);
-            boolean goesOn = true;
-            for (int step = 0; step < MOST_STEPS && goesOn; step++) {
-                goesOn = !gap.isZero() && moveOn(most);
+            boolean moves = true;
+            for (int step = 0; step < MOST_STEPS && moves; step++) {
+                moves = !gap.isZero() && moveOn(most);
+            }
+            if (!gap.isZero()) {
+                chooseNearer(most);
             }
         }
 
@@ -368,7 +364,6 @@ public final class ContinuedRatios {
             long times = quotient.capped();
             long nextLower = olderLower + times * lower;
             if (nextLower > most) {
-                chooseNearer(most);
                 return false;
             }
             long nextUpper = olderUpper + times * upper;
@@ -383,6 +378,7 @@ public final class ContinuedRatios {
             return true;
         }
 
+        /** Between the last convergent and the last small enough fraction on the way to the next. */
         private void chooseNearer(int most) {
             long times = lower < 1 ? 0 : (most - olderLower) / lower;
             long otherUpper = olderUpper + times * upper;
@@ -574,7 +570,7 @@ public final class ContinuedRatios {
             return borrow != 0;
         }
 
-        /** Adds number times factor to the limbs from place on, and lets go what goes beyond one limb more. */
+        /** Adds number times factor to the limbs from place on, and to the one above them. */
         private void addMultipleAt(int place, Natural number, long factor) {
             long carry = 0;
             int top = Math.min(place + number.length, CAPACITY - 1);
