@@ -21,6 +21,21 @@ public final class BestBoundaryTest extends BoundaryChecks {
         box.best(0, 1000, 914, 925);
     }
 
+    /** Fibonacci numbers have the most convergents on the way. */
+    private static void theLongestSearchComesToItsEnd() {
+        Box box = boxOf(1, 1836311903, 1134903170);
+        box.best(0, 1000, 1597, 987);
+        box.best(0, 987, 1597, 987);
+        box.best(0, 986, 987, 610);
+        box.best(0, 610, 987, 610);
+        box.best(0, 609, 610, 377);
+        box.set(0, 1134903170, 1836311903);
+        box.best(0, 1000, 610, 987);
+        box.set(0, -1134903170, 1836311903);
+        box.best(0, 1000, -610, 987);
+        box.best(0, 986, -377, 610);
+    }
+
     private static void bestWithMost1IsAWholeNumber() {
         Box box = box(1, 1);
         int[][] rows = {{7, 3, 2}, {8, 3, 3}, {-7, 3, -2}, {-8, 3, -3}, {0, 1, 0}, {-5, 1, -5}, {1, GREATEST, 0},
@@ -58,7 +73,8 @@ public final class BestBoundaryTest extends BoundaryChecks {
 
     private static void ofThoseTheLesserIsBest() {
         Box box = box(8, 2);
-        int[][] rows = {{1, 2, 0}, {-1, 2, -1}, {7, 2, 3}, {-7, 2, -4}, {GREATEST, 2, 1073741823}, {-GREATEST, 2, -1073741824}};
+        int[][] rows = {{1, 2, 0}, {-1, 2, -1}, {7, 2, 3}, {-7, 2, -4}, {GREATEST, 2, 1073741823},
+            {-GREATEST, 2, -1073741824}};
         for (int[] row : rows) {
             box.set(0, row[0], row[1]);
             box.best(0, 1, row[2], 1);
@@ -138,6 +154,7 @@ public final class BestBoundaryTest extends BoundaryChecks {
 
     public static void main(String[] args) {
         check("16: all whose lower number is 1 .. most", BestBoundaryTest::bestHasALowerNumberUpToMost);
+        check("16: all whose lower number (many convergents)", BestBoundaryTest::theLongestSearchComesToItsEnd);
         check("16: 1 .. most (1)", BestBoundaryTest::bestWithMost1IsAWholeNumber);
         check("16: of those the one whose lower number is least", BestBoundaryTest::ofTheNearestTheLeastLowerNumberIsBest);
         check("16: of those the lesser one", BestBoundaryTest::ofThoseTheLesserIsBest);
